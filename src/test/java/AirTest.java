@@ -88,7 +88,9 @@ public final class AirTest {
             both(x, n, 0, 10 + gains[n], 0);
             both(x, 50 + n, 0, 10, 0);
         }
+        DUE.is("ways before all else", x.doubtOf(30, 1), 16);
         DUE.is("effect", x.effect(30), 4);
+        DUE.is("one of day 1", x.doubtOf(1, 1), 2);
         int want = 0;
         for (int way = 0; way < 16; way++) {
             int sum = 0;
@@ -97,6 +99,7 @@ public final class AirTest {
             }
             want += Math.abs(sum) >= 4 ? 1 : 0;
         }
+        DUE.is("doubt of day 1", x.doubtOf(1, 0), 2);
         DUE.is("doubt", x.doubtOf(30, 0), want);
         DUE.is("ways", x.doubtOf(30, 1), 16);
         DUE.is("no what 2", x.doubtOf(30, 2), -1);

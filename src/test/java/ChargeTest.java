@@ -179,7 +179,12 @@ public final class ChargeTest {
         x.read(1, 1, 10, A);
         x.later(10);
         x.papers(0, 1, 1, 0, 0, 0);
+        x.plate(Due.signs("cccccc"), 3);
         DUE.is("more as known now", x.back(3, 0, 99, 10, 9), 93);
+        x.later(1);
+        x.untell(0);
+        DUE.is("a reading taken back", x.back(3, 0, 99, 10, 11), 7);
+        DUE.is("a reading taken back", x.back(3, 0, 99, 11, 10), -7);
         DUE.is("less as known then", x.back(3, 0, 99, 9, 10), -93);
         DUE.is("nothing", x.back(3, 0, 0, 10, 9), 0);
         DUE.is("from the start", x.back(3, 0, 1, 10, -1), 107);

@@ -165,6 +165,10 @@ public final class FactsTest {
         DUE.is("for ever", x.whose(1, GREATEST), 0);
         DUE.is("untold at the same time", x.untell(1), true);
         DUE.is("never counts", x.whose(1, 10), -1);
+        x.read(0, 0, 7, Due.signs("aaaaaa"));
+        DUE.is("told now", x.whose(2, 10), 0);
+        DUE.is("untold now", x.untell(2), true);
+        DUE.is("known at once", x.whose(2, 10), -1);
     }
 
     private static void time() {

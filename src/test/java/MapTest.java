@@ -60,6 +60,18 @@ public final class MapTest {
         fault("camera p0 from 5 to 4;", 4, 20);
         fault("camera p0 from 0 to 1", 2, 21);
         fault("camera p0 from 0 to 1;camera p0 from 2 to 3;", 5, 29);
+        // a fault is one, though all behind it might stand
+        fault("way way p0 p1 5;", 2, 4);
+        fault("way p0 way p0 p1 5;", 2, 7);
+        fault("way p0 p1 5 way p0 p1 5;", 2, 12);
+        fault("zone way p0 p1 5;", 2, 5);
+        fault("zone p0 way p0 p1 5;", 2, 8);
+        fault("camera way p0 p1 5;", 2, 7);
+        fault("camera p0 way p0 p1 5;", 2, 10);
+        fault("camera p0 from way p0 p1 5;", 2, 15);
+        fault("camera p0 from 0 way p0 p1 5;", 2, 17);
+        fault("camera p0 from 0 to way p0 p1 5;", 2, 20);
+        fault("camera p0 from 0 to 1 way p0 p1 5;", 2, 22);
     }
 
     private static void limits() {
@@ -113,6 +125,8 @@ public final class MapTest {
         }
         x.papers(0, 0, 1, 0, 0, 0);
         x.trip(0, 1, 3, 1, 0);
+        x.read(0, 1, 3, Due.signs("xxxxxx"));
+        DUE.is("doubt before", x.doubt(1, 0), 4);
         DUE.is("a charge before", x.charge(0, 0, 0), 9);
         DUE.is("a fault", Due.map(x, "way"), -1);
         DUE.is("leaves readings", x.like(6, 0), 0);
@@ -124,10 +138,11 @@ public final class MapTest {
         DUE.is("no trip's minutes", x.minutes(0, 0, false), -1);
         DUE.is("no charge then", x.charge(0, 0, 0), 0);
         DUE.is("no doubt then", x.doubt(0, 0), 0);
+        DUE.is("no doubt then", x.doubt(1, 0), 0);
         DUE.is("papers stay", x.classOf(0, 0, 0), 1);
-        DUE.is("facts keep their numbers", x.about(5), 8);
-        DUE.is("the next one's number", x.read(0, 0, 5, Due.signs("abc123")), 8);
-        DUE.is("a day has room again", x.read(0, 0, 6, Due.signs("abc123")), 9);
+        DUE.is("facts keep their numbers", x.about(5), 9);
+        DUE.is("the next one's number", x.read(0, 0, 5, Due.signs("abc123")), 9);
+        DUE.is("a day has room again", x.read(0, 0, 6, Due.signs("abc123")), 10);
         DUE.is("a charge again", x.charge(0, 0, 0), 9);
         DUE.is("papers' number stays", x.untell(7), true);
         DUE.is("they do not count then", x.classOf(0, 0, 0), 0);

@@ -9,6 +9,7 @@ public final class OrdersTest {
         nests();
         units();
         inForce();
+        nothingStays();
         sums();
         DUE.end();
     }
@@ -109,6 +110,25 @@ public final class OrdersTest {
         fault("free when road=1;", 2, 10);
         fault("free when 12345=1;", 1, 10);
         fault("free when 1=1and 1=1;", 1, 12);
+        // a fault is one, though all behind it might stand
+        fault("class grace 1;", 2, 6);
+        fault("class 1 grace 1;", 2, 8);
+        fault("class 1 when grace 1;", 2, 13);
+        fault("class 1 when 1=1 grace 1;", 2, 17);
+        fault("class 1 when 1 grace 1;", 2, 15);
+        fault("class 1 when 1= grace 1;", 2, 16);
+        fault("class 1 when 1=1 and grace 1;", 2, 21);
+        fault("class 1 when (grace 1;", 2, 14);
+        fault("class 1 when (1=1 grace 1;", 2, 18);
+        fault("charge grace 1;", 2, 7);
+        fault("charge 1 grace 1;", 2, 9);
+        fault("charge 1 is grace 1;", 2, 12);
+        fault("hours grace 1;", 2, 6);
+        fault("hours 1 grace 1;", 2, 8);
+        fault("hours 1 to grace 1;", 2, 11);
+        fault("free grace 1;", 2, 5);
+        fault("grace grace 1;", 2, 6);
+        fault("appeal when 1=1 grace 1;", 2, 16);
         StringBuilder classes = new StringBuilder();
         for (int n = 0; n < 6; n++) {
             classes.append("class 5 when 1=1;");
@@ -158,6 +178,24 @@ public final class OrdersTest {
         DUE.is("of like days the last told", x.classOf(0, 10, 0), 4);
         Due.orders(x, 20, "");
         DUE.is("orders that tell nothing", x.classOf(0, 99, 0), 0);
+    }
+
+    /** What a text with a FAULT told is not told to the next one. */
+    private static void nothingStays() {
+        AirZone x = new AirZone();
+        Due.map(x, "zone p0;camera p0 from 0 to 1440;");
+        x.plate(Due.signs("aaaaaa"), 0);
+        x.read(0, 0, 100, Due.signs("aaaaaa"));
+        x.appeal(0, 0);
+        DUE.is("a fault at the end", Due.orders(x, 0, "class 5 when 1=1;class 6 when 1=1;charge 5 is 9;charge 0 is 8;"
+                + "hours 0 to 9;free when 1=1;grace 9;appeal when 1=1;$"), -1);
+        DUE.is("other orders", Due.orders(x, 0, "charge 0 is 7;"), 0);
+        DUE.is("no class", x.classOf(0, 0, 0), 0);
+        DUE.is("no hours, not free, no grace, no appeal", x.charge(0, 0, 0), 7);
+        Due.orders(x, 0, "class 5 when 1=1;class 6 when 2=2;$");
+        Due.orders(x, 0, "class 3 when 1=2;charge 0 is 7;charge 5 is 3;");
+        DUE.is("no other class", x.classOf(0, 0, 0), 0);
+        DUE.is("no other charge", x.charge(0, 0, 0), 7);
     }
 
     private static void classIs(String e, int want) {

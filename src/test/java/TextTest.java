@@ -114,6 +114,19 @@ public final class TextTest {
         faultOf(DUE, "way p0 p0 $", 5, 7);
         faultOf(DUE, "way p0 $ p0", 1, 7);
         faultOf(DUE, "way p0 p1 0 $", 4, 10);
+        // nothing is seen of what was cut off behind the end
+        AirZone cut = new AirZone();
+        Due.tape(cut, "way p0 p1 5x;");
+        cut.end(11);
+        DUE.is("a text cut within", cut.map(), -1);
+        DUE.is("an N at the end", cut.fault(0), 2);
+        DUE.is("the end", cut.fault(1), 11);
+        // as many tokens as bytes
+        StringBuilder many = new StringBuilder("way p0 p1 5;");
+        while (many.length() < 900) {
+            many.append(';');
+        }
+        faultOf(DUE, many.toString(), 2, 12);
         AirZone x = new AirZone();
         DUE.is("blanks part them or not", Due.map(x, "way p0 p01\n0005;way\np11\np00 99;zone p01 p2;camera p9 from0 to1440;"), 4);
         DUE.is("p01 is p1", x.between(0, 1), 5);

@@ -83,6 +83,20 @@ public final class TripTest {
         Due.orders(y, 0, "charge 0 is 999;");
         y.trip(0, 2, 1, 1, 0);
         path(y, 0, 0, true, 0, 1, 2);
+        AirZone z = new AirZone();
+        Due.map(z, "way p0 p1 1;way p1 p2 1;way p2 p3 1;way p0 p4 5;way p4 p3 5;zone p0 p2;");
+        Due.orders(z, 0, "charge 0 is 999;");
+        z.trip(0, 3, 1, 1, 0);
+        z.trip(3, 0, 1, 1, 0);
+        z.trip(1, 3, 1, 1, 0);
+        path(z, 0, 0, true, 0, 1, 2, 3);
+        path(z, 1, 0, true, 3, 2, 1, 0);
+        path(z, 2, 0, true, 1, 2, 3);
+        AirZone w = new AirZone();
+        Due.map(w, "way p0 p1 1;way p1 p3 1;way p0 p3 3;zone p0;");
+        Due.orders(w, 0, "charge 0 is 999;");
+        w.trip(0, 3, 1, 1, 0);
+        path(w, 0, 0, true, 0, 1, 3);
     }
 
     private static void firstByNumber() {
@@ -177,11 +191,16 @@ public final class TripTest {
         DUE.is("no day 100", x.seen(100, 1), -1);
         DUE.is("no day -1", x.seen(-1, 1), -1);
         // the ways are those with the zone: around it by p3
-        AirZone y = ring("charge 0 is 99;");
+        AirZone y = new AirZone();
+        Due.map(y, "way p0 p1 5;way p1 p2 3;way p0 p3 4;way p3 p2 6;way p3 p4 1;zone p1;");
+        Due.orders(y, 5, "charge 0 is 99;");
         y.trip(0, 2, 9, 1, 0);
-        y.trip(3, 1, 2, 1, 0);
-        DUE.is("with the zone: by p0, where both go", y.view(5, 1), 1);
+        y.trip(4, 3, 2, 1, 0);
         DUE.is("all of them", y.seen(5, 1), 11);
+        DUE.is("by p3, where both go", y.view(5, 1), 1 << 3);
+        DUE.is("before the orders by p0", y.view(4, 1), 1);
+        DUE.is("nine of them", y.seen(4, 1), 9);
+        DUE.is("all of them by two", y.seen(4, 2), 11);
         // the fewest of like ones, though their number is greater
         AirZone z = new AirZone();
         Due.map(z, "way p0 p9 1;way p1 p9 1;");

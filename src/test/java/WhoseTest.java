@@ -7,6 +7,7 @@ public final class WhoseTest {
         firstOfLikeOnes();
         waysOneCouldDrive();
         fullDay();
+        tenPlates();
         knownAt();
         twoBear();
         insideBothWithin();
@@ -123,6 +124,20 @@ public final class WhoseTest {
             DUE.is("whose(" + n + ")", x.whose(n, 0), want[n]);
         }
         DUE.is("seven a day", x.read(0, 0, 0, Due.signs("ooo000")), -1);
+    }
+
+    private static void tenPlates() {
+        AirZone x = row("");
+        for (int n = 0; n < 10; n++) {
+            x.plate(Due.signs("aaaaa" + n), 0);
+        }
+        read(x, 0, 0, "aaaaa9");
+        read(x, 1, 0, "aaaaa9");
+        read(x, 1, 0, "aaaaa0");
+        DUE.is("the tenth", x.whose(0, 0), 9);
+        DUE.is("nobody", x.whose(1, 0), -1);
+        DUE.is("the first", x.whose(2, 0), 0);
+        DUE.is("price", x.doubt(0, 0), 4);
     }
 
     private static void knownAt() {
