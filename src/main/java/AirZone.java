@@ -89,7 +89,7 @@ public final class AirZone {
     private static final int CLASS = 127;
     private static final int ASKED = CLASS - FUEL + 1;
 
-    /** The step of a unit word is UNIT_STEP less its place in the row; an N is a step of its own. */
+    /** A unit word's step is UNIT_STEP less its place in the row; an N is a step of its own. */
     private static final int UNIT_STEP = -1;
     private static final int STOP_STEP = -100;
     private static final int STEPS_MOST = 400;
@@ -122,6 +122,7 @@ public final class AirZone {
     public AirZone() {
         text = new Text();
         town = new Town();
+        town.measure();
         draft = new Town();
         book = new OrderBook();
         ordersReader = new OrdersReader(text);
@@ -162,6 +163,7 @@ public final class AirZone {
         }
         text.restart();
         int lines = town.readLines(text);
+        town.measure();
         facts.dropReadings();
         owners.forget();
         trips.count = 0;
@@ -521,7 +523,7 @@ public final class AirZone {
             return place >= 0 && place < length ? tape[place] & 255 : NONE;
         }
 
-        /** Puts the TOKEN that begins at a place: where it ends, or the place itself if none does. */
+        /** Puts the TOKEN that begins at a place: where it ends, or the place if none does. */
         private int scan(int place) {
             int first = byteAt(place);
             if (isDigit(first)) {
@@ -670,11 +672,7 @@ public final class AirZone {
         private final int[] byZoneTable = new int[POINTS * POINTS];
         private final int[] byOutsideTable = new int[POINTS * POINTS];
 
-        Town() {
-            measure();
-        }
-
-        /** Reads the TOKENS of a text as a MAP: how many lines, or NONE and a FAULT. */
+        /** Reads TOKENS as a MAP, not measured yet: how many lines, or NONE and a FAULT. */
         int readLines(Text text) {
             wayCount = 0;
             zonePoints = 0;
@@ -687,8 +685,19 @@ public final class AirZone {
                 }
                 lines++;
             }
-            measure();
             return lines;
+        }
+
+        void measure() {
+            Arrays.fill(hops, NONE);
+            for (int way = 0; way < wayCount; way++) {
+                offerHop(wayFrom[way], wayTo[way], way);
+                offerHop(wayTo[way], wayFrom[way], way);
+            }
+            spread(nearTable, ALL_POINTS);
+            spread(besideTable, ALL_POINTS & ~zonePoints);
+            joinBy(byZoneTable, zonePoints);
+            joinBy(byOutsideTable, ALL_POINTS & ~zonePoints);
         }
 
         /** The least minutes from a P to another one; FAR if no way joins them, or one is none. */
@@ -805,18 +814,6 @@ public final class AirZone {
             return true;
         }
 
-        private void measure() {
-            Arrays.fill(hops, NONE);
-            for (int way = 0; way < wayCount; way++) {
-                offerHop(wayFrom[way], wayTo[way], way);
-                offerHop(wayTo[way], wayFrom[way], way);
-            }
-            spread(nearTable, ALL_POINTS);
-            spread(besideTable, ALL_POINTS & ~zonePoints);
-            joinBy(byZoneTable, zonePoints);
-            joinBy(byOutsideTable, ALL_POINTS & ~zonePoints);
-        }
-
         /** Called in the order of telling: of like WAYS the first told stays. */
         private void offerHop(int a, int b, int way) {
             int cell = a * POINTS + b;
@@ -837,9 +834,10 @@ public final class AirZone {
             }
             for (int middle = 0; middle < POINTS; middle++) {
                 for (int a = 0; a < POINTS; a++) {
-                    for (int b = 0; b < POINTS; b++) {
-                        int way = at(table, a, middle) + at(table, middle, b);
-                        table[a * POINTS + b] = Math.min(at(table, a, b), way);
+                    int there = table[a * POINTS + middle];
+                    for (int b = 0; there < FAR && b < POINTS; b++) {
+                        int way = there + table[middle * POINTS + b];
+                        table[a * POINTS + b] = Math.min(table[a * POINTS + b], way);
                     }
                 }
             }
