@@ -185,6 +185,10 @@ public final class ChargeTest {
         x.untell(0);
         DUE.is("a reading taken back", x.back(3, 0, 99, 10, 11), 7);
         DUE.is("a reading taken back", x.back(3, 0, 99, 11, 10), -7);
+        DUE.is("as known before", x.account(3, 0, 99, 10), 107);
+        DUE.is("and again", x.back(3, 0, 99, 11, 10), -7);
+        DUE.is("as known now", x.account(3, 0, 99, 11), 100);
+        DUE.is("and again", x.back(3, 0, 99, 10, 11), 7);
         DUE.is("less as known then", x.back(3, 0, 99, 9, 10), -93);
         DUE.is("nothing", x.back(3, 0, 0, 10, 9), 0);
         DUE.is("from the start", x.back(3, 0, 1, 10, -1), 107);

@@ -111,6 +111,17 @@ public final class OrdersTest {
         fault("free when 12345=1;", 1, 10);
         fault("free when 1=1and 1=1;", 1, 12);
         // a fault is one, though all behind it might stand
+        fault("class;", 2, 5);
+        fault("class 1;", 2, 7);
+        fault("charge;", 2, 6);
+        fault("charge 1;", 2, 8);
+        fault("charge 1 is;", 2, 11);
+        fault("hours;", 2, 5);
+        fault("hours 1;", 2, 7);
+        fault("hours 1 to;", 2, 10);
+        fault("free;", 2, 4);
+        fault("grace;", 2, 5);
+        fault("appeal;", 2, 6);
         fault("class grace 1;", 2, 6);
         fault("class 1 grace 1;", 2, 8);
         fault("class 1 when grace 1;", 2, 13);
@@ -193,7 +204,7 @@ public final class OrdersTest {
         DUE.is("no class", x.classOf(0, 0, 0), 0);
         DUE.is("no hours, not free, no grace, no appeal", x.charge(0, 0, 0), 7);
         Due.orders(x, 0, "class 5 when 1=1;class 6 when 2=2;$");
-        Due.orders(x, 0, "class 3 when 1=2;charge 0 is 7;charge 5 is 3;");
+        Due.orders(x, 0, "class 3 when 1=2;free when 1=1 and day=99;charge 0 is 7;charge 5 is 3;");
         DUE.is("no other class", x.classOf(0, 0, 0), 0);
         DUE.is("no other charge", x.charge(0, 0, 0), 7);
     }
