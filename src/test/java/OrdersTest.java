@@ -204,9 +204,13 @@ public final class OrdersTest {
         DUE.is("no class", x.classOf(0, 0, 0), 0);
         DUE.is("no hours, not free, no grace, no appeal", x.charge(0, 0, 0), 7);
         Due.orders(x, 0, "class 5 when 1=1;class 6 when 2=2;$");
-        Due.orders(x, 0, "class 3 when 1=2;free when 1=1 and day=99;charge 0 is 7;charge 5 is 3;");
+        Due.orders(x, 0, "class 3 when 1=2;charge 0 is 7;charge 5 is 3;");
         DUE.is("no other class", x.classOf(0, 0, 0), 0);
         DUE.is("no other charge", x.charge(0, 0, 0), 7);
+        Due.orders(x, 0, "class 5 when 1=1;class 6 when 2=2;$");
+        Due.orders(x, 0, "class 3 when 1=2;free when 1=1;charge 0 is 7;");
+        DUE.is("no class by another line's e", x.classOf(0, 0, 0), 0);
+        DUE.is("free", x.charge(0, 0, 0), 0);
     }
 
     private static void classIs(String e, int want) {
