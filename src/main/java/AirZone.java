@@ -1511,12 +1511,10 @@ public final class AirZone {
 
         /** READINGS of a PLATE on a DAY that is chosen, by MINUTES, of like ones as TOLD. */
         private void gatherOf(int plate, int day) {
-            gather(day, isDay(day) ? knownAt[day] : NONE);
-            int all = count;
             count = 0;
-            for (int n = 0; n < all; n++) {
-                int reading = readings[n];
-                if (ownerOfFact[reading] != plate) {
+            for (int n = 0; n < facts.readingsOn(day); n++) {
+                int reading = facts.readingOn(day, n);
+                if (chosenOwner(reading) != plate || count >= DAY_READINGS_MOST) {
                     continue;
                 }
                 int place = count;
