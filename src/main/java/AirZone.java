@@ -1336,8 +1336,9 @@ public final class AirZone {
             Arrays.fill(dayCounts, 0);
         }
 
+        /** A READING that a new MAP took away keeps its number alone: there is no such FACT to take back. */
         boolean takeBack(int fact) {
-            if (!isUnder(fact, count) || untold[fact] != NONE) {
+            if (!isUnder(fact, count) || kinds[fact] == GONE_FACT || untold[fact] != NONE) {
                 return false;
             }
             untold[fact] = time;

@@ -144,6 +144,9 @@ public final class MapTest {
         DUE.is("the next one's number", x.read(0, 0, 5, Due.signs("abc123")), 9);
         DUE.is("a day has room again", x.read(0, 0, 6, Due.signs("abc123")), 10);
         DUE.is("a charge again", x.charge(0, 0, 0), 9);
+        DUE.is("a reading that is none can't be untold", x.untell(6), false);
+        DUE.is("nor the last of them", x.untell(8), false);
+        DUE.is("those that came since can", x.untell(10), true);
         DUE.is("papers' number stays", x.untell(7), true);
         DUE.is("they do not count then", x.classOf(0, 0, 0), 0);
     }

@@ -554,7 +554,7 @@ final class Oracle {
     }
 
     boolean untell(int fact) {
-        if (fact < 0 || fact >= facts.size() || facts.get(fact).untold != null) {
+        if (fact < 0 || fact >= facts.size() || facts.get(fact).kind == 'x' || facts.get(fact).untold != null) {
             return false;
         }
         facts.get(fact).untold = time;
