@@ -86,6 +86,10 @@ public final class MapEdgesTest {
         fault(stretched(900, "way p1 p2 6"), 2, 900);
         fault(stretched(900, "5"), 2, 899);
         fault(stretched(899, "way"), 2, 899);
+        // as many TOKENS as bytes
+        fault(";".repeat(900), 2, 0);
+        fault(WAY + "-".repeat(888), 2, 12);
+        fault(";".repeat(899) + "$", 2, 0);
     }
 
     // words (a .. z, 8 at most)

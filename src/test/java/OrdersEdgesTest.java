@@ -419,6 +419,13 @@ public final class OrdersEdgesTest {
         }
         DUE.is("the next number", Due.orders(x, 0, "charge 0 is 6;"), 1);
         DUE.is("the charge by them", x.charge(0, 0, 0), 6);
+        // what long texts with a FAULT told takes no room from the next one
+        for (int n = 0; n < 12; n++) {
+            DUE.is("50 units and a fault", Due.orders(x, 0, "class 1 when " + sum(50) + ";$"), -1);
+        }
+        String pairs = "1=2" + " or 1=2".repeat(23) + " or not not not not not not not 1=2;";
+        DUE.is("50 units", Due.orders(x, 0, "class 7 when " + pairs), 2);
+        DUE.is("are read to their end", x.classOf(0, 0, 0), 7);
     }
 
     // -2, and the TAPE stays
