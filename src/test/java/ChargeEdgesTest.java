@@ -249,6 +249,12 @@ public final class ChargeEdgesTest {
             x.read(1, 0, 350, A);
             x.appeal(0, 0);
             DUE.is("minute " + asked, x.charge(0, 0, 0), asked == 200 ? 0 : 7);
+            AirZone z = city("charge 0 is 7;appeal when minute=" + asked + ";");
+            z.read(1, 0, 150, A);
+            z.read(1, 0, 250, A);
+            z.read(1, 0, 200, A);
+            z.appeal(0, 0);
+            DUE.is("the first as told, minute " + asked, z.charge(0, 0, 0), asked == 150 ? 0 : 7);
         }
         AirZone y = city("charge 0 is 7;appeal when minute=0;");
         y.read(1, 0, 0, A);

@@ -16,7 +16,9 @@ public final class TripEdgesTest {
         leastCost();
         itsEndsToo();
         onceForAll();
+        byEachPoint();
         ordersOfADay();
+        withoutOrders();
         firstByNumber();
         likeCosts();
         withoutTheZone();
@@ -155,6 +157,10 @@ public final class TripEdgesTest {
         AirZone z = town("way p0 p1 5;zone p1;", "charge 0 is 999;");
         z.trip(0, 1, 1, 1, 0);
         DUE.is("there is no other way", z.minutes(0, 0, true), 5);
+        AirZone w = town("way p0 p1 5;zone p0 p1;", "charge 0 is 999;");
+        DUE.is("from the zone to the zone", w.trip(0, 1, 3, 1, 0), 0);
+        DUE.is("within the zone", w.minutes(0, 0, true), 5);
+        DUE.is("nobody goes around", w.around(0), 0);
     }
 
     // the charge .. if it touches a P of the zone: once, however often
@@ -165,6 +171,24 @@ public final class TripEdgesTest {
         AirZone y = town("way p0 p1 1;way p1 p2 1;way p2 p3 1;way p0 p4 5;way p4 p3 5;zone p1 p2;", "charge 0 is 8;");
         y.trip(0, 3, 1, 1, 0);
         path(y, 0, 0, true, 0, 4, 3);
+        // out of the zone at p2 and in again at p3: all is paid at p1
+        AirZone z = town("way p0 p1 1;way p1 p2 1;way p2 p3 1;way p3 p4 1;way p2 p5 1;way p5 p4 2;zone p1 p3;", "charge 0 is 99;");
+        z.trip(0, 4, 1, 1, 0);
+        path(z, 0, 0, true, 0, 1, 2, 3, 4);
+        DUE.is("minutes", z.minutes(0, 0, true), 4);
+    }
+
+    // if it touches a P of the zone: each of the twelve
+    private static void byEachPoint() {
+        for (int p = 2; p < 12; p++) {
+            int q = p == 11 ? 10 : 11;
+            String map = "way p0 p" + p + " 1;way p" + p + " p1 1;way p0 p" + q + " 5;way p" + q + " p1 5;zone p" + p + ";";
+            AirZone x = town(map, "charge 0 is 7;charge 1 is 9;");
+            x.trip(0, 1, 1, 1, 0);
+            x.trip(0, 1, 1, 1, 1);
+            path(x, 0, 0, true, 0, p, 1);
+            path(x, 1, 0, true, 0, q, 1);
+        }
     }
 
     // (by orders of a DAY)
@@ -179,6 +203,23 @@ public final class TripEdgesTest {
             DUE.is("on day " + days[n], x.minutes(0, days[n], true), want[n]);
             DUE.is("without the zone", x.minutes(0, days[n], false), 8);
         }
+    }
+
+    // without any .. all .. charges are 0; what they do not tell: .. charge 0
+    private static void withoutOrders() {
+        // like ways by p1 in the zone and by p3: a charge of one coin turns all to p3
+        AirZone x = town("way p0 p1 5;way p1 p2 3;way p0 p3 4;way p3 p2 4;zone p1;", "");
+        for (int number = 0; number <= 9; number++) {
+            x.trip(0, 2, 1, 1, number);
+            path(x, number, 0, true, 0, 1, 2);
+        }
+        Due.orders(x, 10, "charge 3 is 1;");
+        for (int number = 0; number <= 9; number++) {
+            DUE.is("ahead of all orders, class " + number, x.via(number, 9, true, 1), 1);
+            DUE.is("by orders, class " + number, x.via(number, 10, true, 1), number == 3 ? 3 : 1);
+        }
+        DUE.is("none goes around", x.around(9), 0);
+        DUE.is("one goes around", x.around(10), 1);
     }
 
     // of like ones that by the P that are first by number, one by one

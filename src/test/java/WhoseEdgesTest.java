@@ -32,6 +32,7 @@ public final class WhoseEdgesTest {
         bothInZoneLessThanOut();
         noPointOutside();
         bothOutsideLessThanIn();
+        byEachPoint();
         noPointInside();
         oneInTheZone();
         firstToLast();
@@ -87,6 +88,14 @@ public final class WhoseEdgesTest {
         whose(x, 1, 0, 0);
         read(x, 0, 0, "abc??0");
         whose(x, 3, 0, 0, 0);
+        // also a PLATE that is told behind the READING, and behind a first answer
+        AirZone y = row("");
+        read(y, 0, 0, "abcdeo");
+        whose(y, 4, -1);
+        y.plate(Due.signs("abcde0"), 0);
+        whose(y, 1, 0);
+        y.plate(Due.signs("abcdeo"), 0);
+        whose(y, 0, 1);
     }
 
     // that it is LIKE (no more than 2)
@@ -411,6 +420,29 @@ public final class WhoseEdgesTest {
         read(y, 1, 0, A);
         read(y, 1, 25, A);
         stays(y, 0, 5);
+    }
+
+    // By OUT, .. to a P outside the zone and on ..; IN, likewise by a P of the zone: each of the twelve
+    private static void byEachPoint() {
+        for (int p = 0; p < 12; p++) {
+            // two P with a camera in one place of the row, p behind them
+            int a = (p + 1) % 12;
+            int b = (p + 2) % 12;
+            String map = "way p" + a + " p" + b + " 1;way p" + b + " p" + p + " 10;camera p" + a + " from 0 to 1440;camera p" + b
+                    + " from 0 to 1440;zone p";
+            AirZone x = new AirZone();
+            Due.map(x, map + p + ";");
+            x.plate(Due.signs(A), 0);
+            read(x, 0, 0, A);
+            read(x, 1, 100, A);
+            stays(x, 0, 100 - 21);
+            AirZone y = new AirZone();
+            Due.map(y, map + a + " p" + b + ";");
+            y.plate(Due.signs(A), 0);
+            read(y, 0, 0, A);
+            read(y, 1, 100, A);
+            stays(y, 21, 100);
+        }
     }
 
     // (no such: beyond all g)
